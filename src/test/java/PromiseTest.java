@@ -13,6 +13,7 @@ public final class PromiseTest {
         buffer();
         readText();
         readTextErrors();
+        readTextAtBounds();
         runOrders();
         runOrdersErrors();
         sizes();
@@ -141,7 +142,7 @@ public final class PromiseTest {
             {"", "1@0"}, {"   ", "1@3"}, {"task", "1@4"}, {"task a", "1@6"}, {"task a ", "1@7"}, {"task a 1;", "1@9"},
             {"task a 1; ", "1@10"}, {"task a 1;;", "1@9"}, {";task a 1", "1@0"}, {"arrow a b", "1@0"},
             {"mode 1;task a 1", "1@0"}, {"join 1", "1@0"}, {"refresh", "1@0"}, {"Task a 1", "1@0"}, {"taSk a 1", "1@0"},
-            {"taska 1", "1@0"}, {"task1 1", "1@4"}, {"task a1", "0@-1"}, {"task a 1 2", "1@9"}, {"task a 1b", "1@8"},
+            {"taska 1", "1@0"}, {"mask a 1", "1@0"}, {"tasl a 1", "1@0"}, {"tusk a 1", "1@0"}, {"task1 1", "1@4"}, {"task a1", "0@-1"}, {"task a 1 2", "1@9"}, {"task a 1b", "1@8"},
             {"task a 0", "2@7"}, {"task a 10", "2@7"}, {"task a 999", "2@7"}, {"task a 009", "0@-1"},
             {"task a 0001", "1@7"}, {"task a 9999999999", "1@7"}, {"task a 0x", "2@7"}, {"task a -1", "1@7"},
             {"task abcdefg 1", "1@5"}, {"task abcdef 1", "0@-1"}, {"task a 1\n", "1@8"}, {"task\ta 1", "1@4"},
@@ -173,6 +174,31 @@ public final class PromiseTest {
         Check.same("4: full", Check.errorOfText(x, full), "0@-1");
         Check.same("4: a 61st arrow", Check.errorOfText(x, full + ";arrow"), "4@" + (full.length() + 1));
         Check.same("4: a 61st arrow, no word", Check.errorOfText(x, full + ";arrows"), "1@" + (full.length() + 1));
+    }
+
+    /** What was cut off the buffer is not read, and a text may fill it to its last byte. */
+    private static void readTextAtBounds() {
+        RingFreeOrder x = new RingFreeOrder();
+        Check.give(x, "task a 19");
+        x.truncate(8);
+        x.readText();
+        Check.same("4: digits that were cut off", x.task(0, 0), 1);
+        Check.give(x, "task abc 1;arrow abcdef");
+        x.truncate(19);
+        Check.argument("4: letters that were cut off", () -> x.readText());
+        Check.same("4: a NAME that no task has", x.errorCode() + "@" + x.errorPosition(), "3@17");
+        Check.give(x, "task a 1   ");
+        x.truncate(9);
+        Check.same("4: spaces that were cut off", x.readText(), 1);
+        Check.same("4: 900 bytes, a digit last", Check.errorOfText(x, " ".repeat(892) + "task a 1"), "0@-1");
+        Check.same("4: 900 bytes, a space last", Check.errorOfText(x, "task a 1" + " ".repeat(892)), "0@-1");
+        Check.same("4: 900 bytes, a letter last", Check.errorOfText(x, "task a 1;arrow" + " ".repeat(885) + "a"), "1@900");
+        Check.same("4: 900 letters", Check.errorOfText(x, "a".repeat(900)), "1@0");
+        Check.same("4: 900 digits", Check.errorOfText(x, "task a " + "1".repeat(893)), "1@7");
+        Check.same("4: 900 semicolons", Check.errorOfText(x, ";".repeat(900)), "1@0");
+        Check.same("5: 900 spaces", Check.errorOfOrders(x, " ".repeat(900)), "0@-1");
+        Check.same("5: 900 bytes, a semicolon last", Check.errorOfOrders(x, "refresh" + " ".repeat(892) + ";"), "0@-1");
+        Check.same("5: 900 bytes, none last", Check.errorOfOrders(x, " ".repeat(893) + "refresh"), "1@900");
     }
 
     private static void runOrders() {
@@ -270,7 +296,9 @@ public final class PromiseTest {
         Check.same("10: none", x.letter(0, 2), NONE);
         Check.same("10: f", x.letter(1, 5), 'f');
         Check.same("10: six", x.letter(1, 6), NONE);
+        Check.same("10: eight", x.letter(1, 8), NONE);
         Check.same("10: negative", x.letter(1, -1), NONE);
+        Check.same("10: more negative", x.letter(1, -8), NONE);
         Check.same("10: great", x.letter(1, Integer.MAX_VALUE), NONE);
         Check.index("10: task 4", () -> x.letter(4, 0));
         Check.index("10: task -1", () -> x.letter(-1, 0));
@@ -854,5 +882,53 @@ public final class PromiseTest {
         }
         Check.same("40: the longest", x.writeArrows(0), 23 * 7 + 22);
         Check.same("26: gap", x.gap(), 0);
+        fullRing();
+        fullOrder();
+    }
+
+    /** 24 tasks in one group with 60 arrows: a ring, and arrows over one and two tasks. */
+    private static void fullRing() {
+        String text = full();
+        RingFreeOrder x = Check.of(text.substring(0, text.lastIndexOf(";arrow")) + ";join 1;arrow x a");
+        Check.same("8: largest group", x.size(5), 24);
+        Check.same("8: arrows", x.size(1), 60);
+        Check.same("8: inner arrows", x.size(6), 60);
+        Check.same("9: reaches all others", x.task(23, 5), 23);
+        Check.same("9: is reached by all others", x.task(0, 6), 23);
+        Check.same("11: all tasks", x.group(0, 4), (1 << 24) - 1);
+        Check.same("11: hours", x.group(0, 2), 24);
+        Check.same("15: far", x.far(0, 23), 9);
+        Check.same("16: last", x.on(0, 23, 9), 23);
+        Check.same("20: least", x.leastPlace(5), 0);
+        Check.same("21: most", x.mostPlace(5), 0);
+        Check.same("22: fresh", x.fresh(0), 0);
+        Check.same("25: tight", x.tight(), 1);
+        Check.same("26: gap", x.gap(), 0);
+        Check.same("27: the arrow that closes it", x.weakest(), 59);
+        Check.same("34: falls apart", x.cut(59), 24);
+        Check.same("34: order", Check.order(x), "a b c d e f g h i j k l m n o p q r s t u v w x");
+        Check.same("29: came of it", x.account(7), 24);
+    }
+
+    /** 24 groups with 60 arrows. */
+    private static void fullOrder() {
+        RingFreeOrder x = Check.of(full());
+        Check.same("9: arrows to the last", x.task(23, 4), 2);
+        Check.same("20: least", x.leastPlace(23), 23);
+        Check.same("21: most of the last", x.mostPlace(23), 23);
+        Check.same("22: fresh", x.fresh(23), 23);
+        Check.same("23: turned", x.turned(), 0);
+        Check.same("24: length", x.length(), 24);
+        Check.same("25: tight", x.tight(), (1 << 24) - 1);
+        Check.same("11: level of the last", x.group(23, 5), 23);
+        Check.same("11: begin of the last", x.group(23, 6), 23);
+        Check.same("26: gap", x.gap(), 0);
+        Check.same("27: none", x.weakest(), NONE);
+        Check.same("28: all but those to the next", x.needless(), 37);
+        Check.same("38: stays", x.refresh(), 0);
+        Check.same("35: the last place", x.swap(22), -5);
+        Check.index("35: behind it", () -> x.swap(23));
+        x.cut(22);
+        Check.same("35: w x are free", x.swap(22), 23);
     }
 }
