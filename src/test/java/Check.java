@@ -1,5 +1,15 @@
+import java.util.function.Consumer;
+import java.util.function.ObjIntConsumer;
+import java.util.function.Supplier;
+import java.util.function.ToIntFunction;
+
 /** What the tests share: comparing answers, handing texts over, reading texts back. */
 final class Check {
+    static final Class<IndexOutOfBoundsException> INDEX = IndexOutOfBoundsException.class;
+    static final Class<IllegalArgumentException> ARGUMENT = IllegalArgumentException.class;
+    static final Class<IllegalStateException> STATE = IllegalStateException.class;
+    private static final int INPUT = 900;
+    private static final int APPENDED = 20;
     private static int wrong = 0;
     private static int asked = 0;
 
@@ -109,8 +119,10 @@ final class Check {
 
     static String output(RingFreeOrder x) {
         StringBuilder text = new StringBuilder();
-        for (int k = 0; x.outputByte(k) != RingFreeOrder.NONE; k++) {
-            text.append((char) x.outputByte(k));
+        int sign = x.outputByte(0);
+        while (sign != RingFreeOrder.NONE) {
+            text.append((char) sign);
+            sign = x.outputByte(text.length());
         }
         return text.toString();
     }
@@ -147,6 +159,88 @@ final class Check {
             text.append(' ').append(x.arrow(i, 0)).append('>').append(x.arrow(i, 1));
         }
         return text.append(" accounts ").append(accounts(x)).toString();
+    }
+
+    /** How many bytes the input buffer has; it stays as it is. */
+    static int bufferLength(RingFreeOrder x) {
+        try {
+            return x.truncate(x.append(0, 0, 0, 0, 0) - APPENDED);
+        } catch (IllegalStateException e) {
+            return fullBufferLength(x);
+        }
+    }
+
+    private static int fullBufferLength(RingFreeOrder x) {
+        for (int length = INPUT; length > INPUT - APPENDED; length--) {
+            try {
+                return x.truncate(length);
+            } catch (IllegalArgumentException e) {
+                // it is shorter than that
+            }
+        }
+        return -1;
+    }
+
+    static String latestError(RingFreeOrder x) {
+        return x.errorCode() + "@" + x.errorPosition();
+    }
+
+    /**
+     * All that an object can ever tell but for the latest error: output text, input buffer, state, what can be
+     * taken back, what was saved. The object is used up by it: no test goes beyond its 512th call.
+     */
+    static String rest(RingFreeOrder x) {
+        StringBuilder text = new StringBuilder("output ").append(output(x));
+        text.append(" changes ").append(x.size(8)).append(" now ").append(snapshot(x));
+        text.append(" buffer ").append(bufferLength(x));
+        while (x.undo() != RingFreeOrder.NONE) {
+            text.append(" before ").append(snapshot(x));
+        }
+        try {
+            x.restore();
+            text.append(" saved ").append(snapshot(x));
+        } catch (IllegalStateException e) {
+            text.append(" nothing saved");
+        }
+        // what the buffer holds shows in what comes of it
+        text.append(" make ").append(x.make(1)).append(' ').append(order(x));
+        try {
+            text.append(" orders ").append(x.runOrders()).append(' ').append(order(x));
+        } catch (IllegalArgumentException e) {
+            text.append(" orders ").append(latestError(x));
+        }
+        return text.toString();
+    }
+
+    /** A call that must not change anything: two objects made alike, one with the call, tell the same to the end. */
+    static void nothing(String what, Supplier<RingFreeOrder> made, Consumer<RingFreeOrder> call) {
+        RingFreeOrder with = made.get();
+        RingFreeOrder without = made.get();
+        call.accept(with);
+        same(what + " changes no error", latestError(with), latestError(without));
+        same(what + " changes nothing", rest(with), rest(without));
+    }
+
+    /** A call that throws the exception and changes nothing. */
+    static void refused(String what, Supplier<RingFreeOrder> made, Class<? extends RuntimeException> due,
+            Consumer<RingFreeOrder> call) {
+        nothing(what, made, x -> throwsIt(what, due, () -> call.accept(x)));
+    }
+
+    /** A change that answers 0 less the reason and changes nothing. */
+    static void refused(String what, Supplier<RingFreeOrder> made, int reason, ToIntFunction<RingFreeOrder> call) {
+        nothing(what, made, x -> same(what, call.applyAsInt(x), -reason));
+    }
+
+    /** A call of one number that throws nothing from least to most, and the exception on each side of it. */
+    static void range(String what, Supplier<RingFreeOrder> made, int least, int most,
+            Class<? extends RuntimeException> due, ObjIntConsumer<RingFreeOrder> call) {
+        for (int value = least; value <= most; value++) {
+            call.accept(made.get(), value);
+        }
+        for (int value : new int[] {least - 1, most + 1, Integer.MIN_VALUE, Integer.MAX_VALUE, least - 32, most + 32}) {
+            refused(what + " of " + value, made, due, x -> call.accept(x, value));
+        }
     }
 
     static void end(String name) {

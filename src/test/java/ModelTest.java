@@ -4,14 +4,17 @@ import java.util.TreeSet;
 
 /** Long runs of calls, chosen by seeds, each answer compared with that of the model. */
 public final class ModelTest {
-    private static final int RUNS = 120;
-    private static final int CALLS = 150;
+    private static final int RUNS = 160;
+    private static final int CHANGES = 150;
+    /** A change takes less calls than that, and so does the writing and reading of an output text. */
+    private static final int CHANGE = 55;
+    private static final int TEXT = 200;
     private static final String[] NAMES = {"a", "b", "c", "d", "task", "arrow", "mode", "join", "cut", "hours", "swap", "abcdef",
         "fedcba", "aa", "ab", "ba", "bb", "ccc", "dddd", "eeeee", "zz", "y", "x", "w", "v", "u"};
 
     private final Random random;
     private final String run;
-    private final RingFreeOrder x = new RingFreeOrder();
+    private final Player player = new Player();
     private final Model m = new Model();
 
     private ModelTest(int seed) {
@@ -25,7 +28,7 @@ public final class ModelTest {
             if (seed % 4 != 0) {
                 test.begin(seed % 4);
             }
-            for (int k = 0; k < CALLS; k++) {
+            for (int k = 0; k < CHANGES && test.player.hasRoom(CHANGE); k++) {
                 test.change();
                 test.lookBriefly();
                 if (k % 10 == 9) {
@@ -36,12 +39,17 @@ public final class ModelTest {
         Check.end("ModelTest");
     }
 
+    /** The object for a look of one call. */
+    private RingFreeOrder x() {
+        return player.look(1);
+    }
+
     private void same(String what, long got, long want) {
         Check.same(run + what, got, want);
     }
 
     private void give(String text) {
-        Check.give(x, text);
+        player.give(text);
         m.buffer = text;
     }
 
@@ -65,7 +73,7 @@ public final class ModelTest {
             text.append(";join 1");
         }
         give(text.toString());
-        same("readText()", x.readText(), m.readText());
+        same("readText()", player.answer(x -> x.readText()), m.readText());
     }
 
     // ---- changes ----
@@ -77,33 +85,33 @@ public final class ModelTest {
         } else if (kind < 62) {
             if (m.net.arrows.size() > 0) {
                 int arrow = random.nextInt(m.net.arrows.size());
-                same("cut(" + arrow + ")", x.cut(arrow), m.cut(arrow));
+                same("cut(" + arrow + ")", player.answer(x -> x.cut(arrow)), m.cut(arrow));
             }
         } else if (kind < 68) {
             if (m.net.order.size() > 1) {
                 int place = random.nextInt(m.net.order.size() - 1);
-                same("swap(" + place + ")", x.swap(place), m.swap(place));
+                same("swap(" + place + ")", player.answer(x -> x.swap(place)), m.swap(place));
             }
         } else if (kind < 72) {
             give(random.nextInt(5) == 0 ? junk() : NAMES[random.nextInt(NAMES.length)]);
             int hours = 1 + random.nextInt(9);
-            same("make()", x.make(hours), m.make(hours));
+            same("make()", player.answer(x -> x.make(hours)), m.make(hours));
         } else if (kind < 76) {
             int task = anyTask();
             int hours = 1 + random.nextInt(9);
             m.remember();
-            same("setHours()", x.setHours(task, hours), m.net.hours.set(task, hours));
+            same("setHours()", player.answer(x -> x.setHours(task, hours)), m.net.hours.set(task, hours));
         } else if (kind < 82) {
             setNumber();
         } else if (kind < 84) {
             m.remember();
-            same("refresh()", x.refresh(), Model.renew(m.net));
+            same("refresh()", player.answer(x -> x.refresh()), Model.renew(m.net));
         } else if (kind < 91) {
             orders();
         } else if (kind < 92) {
             text();
         } else if (kind < 97) {
-            same("undo()", x.undo(), m.undo());
+            same("undo()", player.answer(x -> x.undo()), m.undo());
         } else {
             saveOrRestore();
         }
@@ -117,18 +125,18 @@ public final class ModelTest {
         boolean told = reason == 0 || reason == 4;
         int[] due = {out.affected, out.behind, out.ahead, out.joined, out.looked, reason == 0 ? out.moved : 0};
         for (int k = 0; k < 6; k++) {
-            same("trial(" + a + ", " + b + ", " + k + ")", x.trial(a, b, k), told ? due[k] : 0);
+            same("trial(" + a + ", " + b + ", " + k + ")", x().trial(a, b, k), told ? due[k] : 0);
         }
         lookAtReasons(a, b, reason);
-        same("add(" + a + ", " + b + ")", x.add(a, b), m.add(a, b));
+        same("add(" + a + ", " + b + ")", player.answer(x -> x.add(a, b)), m.add(a, b));
     }
 
     private void lookAtReasons(int a, int b, int reason) {
         List<Integer> way = Model.way(m.net, b, a);
-        same("why 0", x.why(a, b, 0), reason);
-        same("why 1", x.why(a, b, 1), reason == 4 ? 101 + way.get(1) : 0);
-        same("why 2", x.why(a, b, 2), reason == 4 ? 201 + way.size() - 1 : 0);
-        same("why 3", x.why(a, b, 3), 0);
+        same("why 0", x().why(a, b, 0), reason);
+        same("why 1", x().why(a, b, 1), reason == 4 ? 101 + way.get(1) : 0);
+        same("why 2", x().why(a, b, 2), reason == 4 ? 201 + way.size() - 1 : 0);
+        same("why 3", x().why(a, b, 3), 0);
         int best = -1;
         int least = Integer.MAX_VALUE;
         for (int mode = 0; mode < 3 && reason == 0; mode++) {
@@ -138,18 +146,18 @@ public final class ModelTest {
                 best = mode;
             }
         }
-        same("bestMode", x.bestMode(a, b), best);
+        same("bestMode", x().bestMode(a, b), best);
     }
 
     private void setNumber() {
         m.remember();
         if (random.nextBoolean()) {
             int mode = random.nextInt(3);
-            same("set(0)", x.set(0, mode), m.net.mode);
+            same("set(0)", player.answer(x -> x.set(0, mode)), m.net.mode);
             m.net.mode = mode;
         } else {
             int join = random.nextInt(4) == 0 ? 0 : 1;
-            same("set(1)", x.set(1, join), m.net.join);
+            same("set(1)", player.answer(x -> x.set(1, join)), m.net.join);
             m.net.join = join;
         }
     }
@@ -157,13 +165,13 @@ public final class ModelTest {
     private void saveOrRestore() {
         if (random.nextBoolean()) {
             m.saved = m.net.copy();
-            same("save()", x.save(), m.net.arrows.size());
+            same("save()", player.answer(x -> x.save()), m.net.arrows.size());
         } else if (m.saved == null) {
-            Check.state(run + "restore()", () -> x.restore());
+            player.play(1, x -> Check.state(run + "restore()", () -> x.restore()));
         } else {
             m.net = m.saved.copy();
             m.past.clear();
-            same("restore()", x.restore(), m.net.arrows.size());
+            same("restore()", player.answer(x -> x.restore()), m.net.arrows.size());
         }
     }
 
@@ -213,9 +221,9 @@ public final class ModelTest {
         String given = m.buffer;
         int due = m.runOrders();
         if (due < 0) {
-            Check.argument(run + "runOrders() of " + given, () -> x.runOrders());
+            player.play(1, x -> Check.argument(run + "runOrders() of " + given, () -> x.runOrders()));
         } else {
-            same("runOrders() of " + given, x.runOrders(), due);
+            same("runOrders() of " + given, player.answer(x -> x.runOrders()), due);
         }
     }
 
@@ -261,29 +269,29 @@ public final class ModelTest {
         String given = m.buffer;
         int due = m.readText();
         if (due < 0) {
-            Check.argument(run + "readText() of " + given, () -> x.readText());
+            player.play(1, x -> Check.argument(run + "readText() of " + given, () -> x.readText()));
         } else {
-            same("readText() of " + given, x.readText(), due);
+            same("readText() of " + given, player.answer(x -> x.readText()), due);
         }
-        same("errorCode() of " + given, x.errorCode(), m.code);
-        same("errorPosition() of " + given, x.errorPosition(), m.position);
+        same("errorCode() of " + given, x().errorCode(), m.code);
+        same("errorPosition() of " + given, x().errorPosition(), m.position);
     }
 
     // ---- looking ----
 
     private void lookBriefly() {
-        same("errorCode()", x.errorCode(), m.code);
-        same("errorPosition()", x.errorPosition(), m.position);
-        same("changes", x.size(8), m.past.size());
-        same("gap()", x.gap(), 0);
+        same("errorCode()", x().errorCode(), m.code);
+        same("errorPosition()", x().errorPosition(), m.position);
+        same("changes", x().size(8), m.past.size());
+        same("gap()", x().gap(), 0);
         for (int k = 0; k < 9; k++) {
-            same("account(" + k + ")", x.account(k), m.net.accounts[k]);
+            same("account(" + k + ")", x().account(k), m.net.accounts[k]);
         }
-        same("mode", x.size(3), m.net.mode);
-        same("join", x.size(4), m.net.join);
-        Check.same(run + "order", Check.order(x), m.orderText());
+        same("mode", x().size(3), m.net.mode);
+        same("join", x().size(4), m.net.join);
+        Check.same(run + "order", Check.order(player.look(TEXT)), m.orderText());
         int task = anyTask();
-        Check.same(run + "arrows", Check.arrows(x, task), m.arrowsText(task));
+        Check.same(run + "arrows", Check.arrows(player.look(TEXT), task), m.arrowsText(task));
     }
 
     private void lookAll() {
@@ -298,7 +306,7 @@ public final class ModelTest {
         lookAtFresh();
         lookAtCuts();
         double repairs = m.net.accounts[2];
-        same("meanMoved()", Double.doubleToLongBits(x.meanMoved()),
+        same("meanMoved()", Double.doubleToLongBits(x().meanMoved()),
                 Double.doubleToLongBits(repairs == 0 ? 0.0 : m.net.accounts[5] / repairs));
     }
 
@@ -320,9 +328,9 @@ public final class ModelTest {
         int arrows = m.net.arrows.size();
         int[] due = {tasks(), arrows, m.net.order.size(), m.net.mode, m.net.join, largest, inner, several};
         for (int k = 0; k < due.length; k++) {
-            same("size(" + k + ")", x.size(k), due[k]);
+            same("size(" + k + ")", x().size(k), due[k]);
         }
-        same("innerShare()", Float.floatToIntBits(x.innerShare()),
+        same("innerShare()", Float.floatToIntBits(x().innerShare()),
                 Float.floatToIntBits(arrows == 0 ? 0.0f : (float) inner / (float) arrows));
     }
 
@@ -339,20 +347,20 @@ public final class ModelTest {
             List<Integer> way = Model.way(n, task, t);
             reached += t != task && !way.isEmpty() ? 1 : 0;
             reaching += t != task && Model.reaches(n, t, task) ? 1 : 0;
-            same("reaches", x.reaches(task, t) ? 1 : 0, way.isEmpty() ? 0 : 1);
-            same("far", x.far(task, t), way.size() - 1);
-            same("arrowOf", x.arrowOf(task, t), Model.numberOf(n, task, t));
+            same("reaches", x().reaches(task, t) ? 1 : 0, way.isEmpty() ? 0 : 1);
+            same("far", x().far(task, t), way.size() - 1);
+            same("arrowOf", x().arrowOf(task, t), Model.numberOf(n, task, t));
             for (int k = 0; k <= way.size(); k++) {
-                same("on " + task + " " + t + " " + k, x.on(task, t, k), k < way.size() ? way.get(k) : -1);
+                same("on " + task + " " + t + " " + k, x().on(task, t, k), k < way.size() ? way.get(k) : -1);
             }
         }
         String name = n.names.get(task);
         int[] due = {n.hours.get(task), n.order.get(place).first(), place, out, in, reached, reaching, name.length()};
         for (int k = 0; k < due.length; k++) {
-            same("task(" + task + ", " + k + ")", x.task(task, k), due[k]);
+            same("task(" + task + ", " + k + ")", x().task(task, k), due[k]);
         }
         for (int k = 0; k < 7; k++) {
-            same("letter", x.letter(task, k), k < name.length() ? name.charAt(k) : -1);
+            same("letter", x().letter(task, k), k < name.length() ? name.charAt(k) : -1);
         }
         int least = place;
         while (least > 0 && !Model.groupLeads(n, n.order.get(least - 1), n.order.get(place))) {
@@ -362,15 +370,15 @@ public final class ModelTest {
         while (most < n.order.size() - 1 && !Model.groupLeads(n, n.order.get(place), n.order.get(most + 1))) {
             most++;
         }
-        same("leastPlace", x.leastPlace(task), least);
-        same("mostPlace", x.mostPlace(task), most);
+        same("leastPlace", x().leastPlace(task), least);
+        same("mostPlace", x().mostPlace(task), most);
     }
 
     private void lookAtArrow(int arrow) {
         int[] ends = m.net.arrows.get(arrow);
         int[] due = {ends[0], ends[1], inner(ends) ? 1 : 0, Model.placeOf(m.net, ends[1]) - Model.placeOf(m.net, ends[0])};
         for (int k = 0; k < due.length; k++) {
-            same("arrow(" + arrow + ", " + k + ")", x.arrow(arrow, k), due[k]);
+            same("arrow(" + arrow + ", " + k + ")", x().arrow(arrow, k), due[k]);
         }
     }
 
@@ -393,23 +401,23 @@ public final class ModelTest {
             int[] due = {group.first(), group.size(), Model.hoursOf(n, p), inner, set,
                 Model.most(n, p, false, false, Model.unknown()), Model.most(n, p, true, false, Model.unknown()), slack};
             for (int k = 0; k < due.length; k++) {
-                same("group(" + p + ", " + k + ")", x.group(p, k), due[k]);
+                same("group(" + p + ", " + k + ")", x().group(p, k), due[k]);
             }
         }
-        same("length()", x.length(), longest);
-        same("tight()", x.tight(), tight);
+        same("length()", x().length(), longest);
+        same("tight()", x().tight(), tight);
     }
 
     private void lookAtFresh() {
         List<TreeSet<Integer>> fresh = Model.freshOf(m.net, m.net.order);
         int turned = 0;
         for (int p = 0; p < fresh.size(); p++) {
-            same("fresh(" + p + ")", x.fresh(p), fresh.get(p).first());
+            same("fresh(" + p + ")", x().fresh(p), fresh.get(p).first());
             for (int q = 0; q < p; q++) {
                 turned += m.net.order.indexOf(fresh.get(q)) > m.net.order.indexOf(fresh.get(p)) ? 1 : 0;
             }
         }
-        same("turned()", x.turned(), turned);
+        same("turned()", x().turned(), turned);
     }
 
     private void lookAtCuts() {
@@ -426,7 +434,7 @@ public final class ModelTest {
             }
             needless += Model.reaches(copy, ends[0], ends[1]) ? 1 : 0;
         }
-        same("weakest()", x.weakest(), weakest);
-        same("needless()", x.needless(), needless);
+        same("weakest()", x().weakest(), weakest);
+        same("needless()", x().needless(), needless);
     }
 }

@@ -52,22 +52,6 @@ public final class PromiseTest {
         return Check.of(FIVE + ";" + GROUPED);
     }
 
-    /** A ring-free net with 24 tasks and 60 arrows, each from a task to one of the next three. */
-    private static String full() {
-        StringBuilder text = new StringBuilder();
-        for (int t = 0; t < 24; t++) {
-            text.append(t == 0 ? "" : ";").append("task").append(' ').append((char) ('a' + t)).append(1);
-        }
-        int count = 0;
-        for (int step = 1; step <= 3; step++) {
-            for (int t = 0; t + step < 24 && count < 60; t++) {
-                text.append(";arrow ").append((char) ('a' + t)).append(' ').append((char) ('a' + t + step));
-                count++;
-            }
-        }
-        return text.toString();
-    }
-
     private static void newObject() {
         RingFreeOrder x = new RingFreeOrder();
         Check.same("1: NONE", NONE, -1);
@@ -136,13 +120,12 @@ public final class PromiseTest {
     }
 
     private static void readTextErrors() {
-        RingFreeOrder x = Check.of("task q 5");
-        Check.run(x, "hours q 6;");
         String[][] cases = {
             {"", "1@0"}, {"   ", "1@3"}, {"task", "1@4"}, {"task a", "1@6"}, {"task a ", "1@7"}, {"task a 1;", "1@9"},
             {"task a 1; ", "1@10"}, {"task a 1;;", "1@9"}, {";task a 1", "1@0"}, {"arrow a b", "1@0"},
             {"mode 1;task a 1", "1@0"}, {"join 1", "1@0"}, {"refresh", "1@0"}, {"Task a 1", "1@0"}, {"taSk a 1", "1@0"},
-            {"taska 1", "1@0"}, {"mask a 1", "1@0"}, {"tasl a 1", "1@0"}, {"tusk a 1", "1@0"}, {"task1 1", "1@4"}, {"task a1", "0@-1"}, {"task a 1 2", "1@9"}, {"task a 1b", "1@8"},
+            {"taska 1", "1@0"}, {"mask a 1", "1@0"}, {"tasl a 1", "1@0"}, {"tusk a 1", "1@0"},
+            {"task1 1", "1@4"}, {"task a1", "0@-1"}, {"task a 1 2", "1@9"}, {"task a 1b", "1@8"},
             {"task a 0", "2@7"}, {"task a 10", "2@7"}, {"task a 999", "2@7"}, {"task a 009", "0@-1"},
             {"task a 0001", "1@7"}, {"task a 9999999999", "1@7"}, {"task a 0x", "2@7"}, {"task a -1", "1@7"},
             {"task abcdefg 1", "1@5"}, {"task abcdef 1", "0@-1"}, {"task a 1\n", "1@8"}, {"task\ta 1", "1@4"},
@@ -158,6 +141,8 @@ public final class PromiseTest {
             {"task a 1;cut a a", "1@9"}, {"task a 1\u0080", "1@8"}, {"task \u00e1 1", "1@5"}, {"task a 1;mode 0002", "1@14"},
         };
         for (String[] one : cases) {
+            RingFreeOrder x = Check.of("task q 5");
+            Check.run(x, "hours q 6;");
             String before = one[1].equals("0@-1") ? "" : Check.snapshot(x);
             Check.same("4, 6, 7: " + one[0], Check.errorOfText(x, one[0]), one[1]);
             Check.same("4: buffer is emptied behind " + one[0], x.append(0, 0, 0, 0, 0), 20);
@@ -165,9 +150,9 @@ public final class PromiseTest {
                 Check.same("4: nothing changes by " + one[0], Check.snapshot(x), before);
                 Check.same("4: can be taken back behind " + one[0], x.undo(), 0);
             }
-            x.setHours(0, 6);
         }
-        String full = full();
+        RingFreeOrder x = Check.of("task q 5");
+        String full = Samples.fullText();
         String tasks = full.substring(0, full.indexOf(";arrow"));
         Check.same("4: a 25th task", Check.errorOfText(x, tasks + ";task"), "4@" + (tasks.length() + 1));
         Check.same("4: a 25th task, no word", Check.errorOfText(x, tasks + "; tasks"), "1@" + (tasks.length() + 2));
@@ -224,13 +209,12 @@ public final class PromiseTest {
                 "a b c e d mode 0 join 0 hours 2 2 3 4 5 arrows 0>1 accounts 1 0 0 0 0 0 0 0 1");
         Check.same("5: mode twice", Check.run(x, "mode 1;mode 0;join 1;join 0;"), 4);
         Check.same("5: buffer is emptied", x.append(0, 0, 0, 0, 0), 20);
-        RingFreeOrder y = Check.of(full());
+        RingFreeOrder y = Samples.full();
         Check.same("5: a 61st arrow is refused", Check.run(y, "arrow a x;"), 0);
         Check.same("5: 30 orders", Check.run(y, "mode 0;".repeat(30)), 30);
     }
 
     private static void runOrdersErrors() {
-        RingFreeOrder x = Check.of(FIVE);
         String[][] cases = {
             {";", "1@0"}, {"refresh", "1@7"}, {"refresh ", "1@8"}, {"refresh;;", "1@8"}, {"refresh refresh;", "1@8"},
             {"task f 1;", "1@0"}, {"arrow a;", "1@7"}, {"arrow a f;", "3@8"}, {"arrow f a;", "3@6"}, {"cut a f;", "3@6"},
@@ -242,6 +226,7 @@ public final class PromiseTest {
             {"mode 0;".repeat(30) + "modes 0;", "1@210"}, {"mode 0;".repeat(30) + ";", "1@210"},
         };
         for (String[] one : cases) {
+            RingFreeOrder x = Check.of(FIVE);
             int changes = x.size(8);
             String before = Check.snapshot(x);
             Check.same("5, 6, 7: " + one[0], Check.errorOfOrders(x, one[0]), one[1]);
@@ -251,6 +236,7 @@ public final class PromiseTest {
                 Check.same("5: no change by " + one[0], x.size(8), changes);
             }
         }
+        RingFreeOrder x = Check.of(FIVE);
         Check.errorOfOrders(x, "x");
         x.make(1);
         x.save();
@@ -390,7 +376,7 @@ public final class PromiseTest {
         Check.index("17: to", () -> x.trial(0, -1, 0));
         Check.argument("17: what 6", () -> x.trial(0, 1, 6));
         Check.argument("17: what -1", () -> x.trial(0, 0, -1));
-        RingFreeOrder y = Check.of(full());
+        RingFreeOrder y = Samples.full();
         Check.same("17: full", trialOf(y, 23, 0), "0 0 0 0 0 0");
         y.cut(59);
         Check.same("17: ring", trialOf(y, 23, 0), "24 24 24 24 118 0");
@@ -428,7 +414,7 @@ public final class PromiseTest {
         Check.index("18: from", () -> x.why(5, 0, -1));
         Check.index("18: to", () -> x.why(0, -1, 0));
         Check.argument("18: depth", () -> x.why(0, 0, -1));
-        RingFreeOrder y = Check.of(full());
+        RingFreeOrder y = Samples.full();
         Check.same("18: full", whyOf(y, 23, 0), "3 0 0 0");
         Check.same("18: full and known", whyOf(y, 0, 1), "2 0 0 0");
         Check.same("18: full and same", whyOf(y, 1, 1), "1 0 0 0");
@@ -469,7 +455,7 @@ public final class PromiseTest {
         Check.same("19: mode 0", Check.of(FIVE + ";mode 1").bestMode(3, 0), 0);
         Check.index("19: from", () -> x.bestMode(6, 0));
         Check.index("19: to", () -> x.bestMode(0, -1));
-        Check.same("19: full", Check.of(full()).bestMode(0, 23), NONE);
+        Check.same("19: full", Samples.full().bestMode(0, 23), NONE);
     }
 
     private static void places() {
@@ -628,7 +614,7 @@ public final class PromiseTest {
         Check.same("33: nothing to repair", x.add(0, 4), 0);
         Check.same("33: state", Check.snapshot(x),
                 "a b c d e mode 0 join 0 hours 1 2 3 4 5 arrows 0>1 1>2 0>4 accounts 1 0 0 0 0 0 0 0 0");
-        RingFreeOrder y = Check.of(full());
+        RingFreeOrder y = Samples.full();
         Check.same("33: full", y.add(0, 23), -3);
         Check.same("33: full and ring", y.add(23, 0), -3);
         Check.same("33: full and known", y.add(0, 1), -2);
@@ -707,7 +693,8 @@ public final class PromiseTest {
         Check.same("34: into two", y.cut(y.arrowOf(3, 4)), 2);
         Check.same("34: two groups", Check.order(y), "c (a+e) (b+d)");
         y.add(0, 3);
-        Check.same("34: did not fall apart", Check.of("task a 1;task b 1;task c 1;join 1;arrow a b;arrow b c;arrow c a;arrow b a").cut(3), 1);
+        RingFreeOrder z = Check.of("task a 1;task b 1;task c 1;join 1;arrow a b;arrow b c;arrow c a;arrow b a");
+        Check.same("34: did not fall apart", z.cut(3), 1);
     }
 
     private static void swap() {
@@ -888,7 +875,7 @@ public final class PromiseTest {
 
     /** 24 tasks in one group with 60 arrows: a ring, and arrows over one and two tasks. */
     private static void fullRing() {
-        String text = full();
+        String text = Samples.fullText();
         RingFreeOrder x = Check.of(text.substring(0, text.lastIndexOf(";arrow")) + ";join 1;arrow x a");
         Check.same("8: largest group", x.size(5), 24);
         Check.same("8: arrows", x.size(1), 60);
@@ -912,7 +899,7 @@ public final class PromiseTest {
 
     /** 24 groups with 60 arrows. */
     private static void fullOrder() {
-        RingFreeOrder x = Check.of(full());
+        RingFreeOrder x = Samples.full();
         Check.same("9: arrows to the last", x.task(23, 4), 2);
         Check.same("20: least", x.leastPlace(23), 23);
         Check.same("21: most of the last", x.mostPlace(23), 23);
