@@ -6,9 +6,8 @@ import java.util.TreeSet;
 public final class ModelTest {
     private static final int RUNS = 160;
     private static final int CHANGES = 150;
-    /** A change takes less calls than that, and so does the writing and reading of an output text. */
+    /** A change takes less calls than that. */
     private static final int CHANGE = 55;
-    private static final int TEXT = 200;
     private static final String[] NAMES = {"a", "b", "c", "d", "task", "arrow", "mode", "join", "cut", "hours", "swap", "abcdef",
         "fedcba", "aa", "ab", "ba", "bb", "ccc", "dddd", "eeeee", "zz", "y", "x", "w", "v", "u"};
 
@@ -289,9 +288,30 @@ public final class ModelTest {
         }
         same("mode", x().size(3), m.net.mode);
         same("join", x().size(4), m.net.join);
-        Check.same(run + "order", Check.order(player.look(TEXT)), m.orderText());
+        String order = m.orderText();
+        Check.same(run + "order", Check.order(player.look(reading(order))), order);
         int task = anyTask();
-        Check.same(run + "arrows", Check.arrows(player.look(TEXT), task), m.arrowsText(task));
+        String arrows = m.arrowsText(task);
+        Check.same(run + "arrows", Check.arrows(player.look(reading(arrows)), task), arrows);
+        lookAtSome(task, anyTask());
+    }
+
+    /** How many calls it takes to write an output text and to read it. */
+    private static int reading(String text) {
+        return 2 + text.length();
+    }
+
+    /** Looks between two changes at the same object: what one look leaves behind must not show in the next one. */
+    private void lookAtSome(int from, int to) {
+        Model.Net n = m.net;
+        int longest = Model.longest(n);
+        same("length()", x().length(), longest);
+        lookAtGroup(random.nextInt(n.order.size()), longest);
+        int place = random.nextInt(n.order.size());
+        same("fresh(" + place + ")", x().fresh(place), Model.freshOf(n, n.order).get(place).first());
+        List<Integer> way = Model.way(n, from, to);
+        same("far", x().far(from, to), way.size() - 1);
+        same("on", x().on(from, to, 1), way.size() > 1 ? way.get(1) : -1);
     }
 
     private void lookAll() {
@@ -383,29 +403,33 @@ public final class ModelTest {
     }
 
     private void lookAtGroups() {
-        Model.Net n = m.net;
-        int longest = Model.longest(n);
+        int longest = Model.longest(m.net);
         int tight = 0;
-        for (int p = 0; p < n.order.size(); p++) {
-            TreeSet<Integer> group = n.order.get(p);
-            int inner = 0;
-            int set = 0;
-            for (int[] arrow : n.arrows) {
-                inner += group.contains(arrow[0]) && group.contains(arrow[1]) ? 1 : 0;
-            }
-            for (int task : group) {
-                set |= 1 << task;
-            }
-            int slack = longest - Model.through(n, p);
-            tight |= slack == 0 ? 1 << group.first() : 0;
-            int[] due = {group.first(), group.size(), Model.hoursOf(n, p), inner, set,
-                Model.most(n, p, false, false, Model.unknown()), Model.most(n, p, true, false, Model.unknown()), slack};
-            for (int k = 0; k < due.length; k++) {
-                same("group(" + p + ", " + k + ")", x().group(p, k), due[k]);
-            }
+        for (int p = 0; p < m.net.order.size(); p++) {
+            tight |= Model.through(m.net, p) == longest ? 1 << m.net.order.get(p).first() : 0;
+            lookAtGroup(p, longest);
         }
         same("length()", x().length(), longest);
         same("tight()", x().tight(), tight);
+    }
+
+    private void lookAtGroup(int place, int longest) {
+        Model.Net n = m.net;
+        TreeSet<Integer> group = n.order.get(place);
+        int inner = 0;
+        int set = 0;
+        for (int[] arrow : n.arrows) {
+            inner += group.contains(arrow[0]) && group.contains(arrow[1]) ? 1 : 0;
+        }
+        for (int task : group) {
+            set |= 1 << task;
+        }
+        int[] due = {group.first(), group.size(), Model.hoursOf(n, place), inner, set,
+            Model.most(n, place, false, false, Model.unknown()), Model.most(n, place, true, false, Model.unknown()),
+            longest - Model.through(n, place)};
+        for (int k = 0; k < due.length; k++) {
+            same("group(" + place + ", " + k + ")", x().group(place, k), due[k]);
+        }
     }
 
     private void lookAtFresh() {

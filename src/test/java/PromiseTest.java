@@ -506,11 +506,30 @@ public final class PromiseTest {
         Check.same("24: with a group", y.length(), 15);
         Check.same("25: heads", y.tight(), 1 | 2 | 16);
         Check.same("26: gap", y.gap() + x.gap(), 0);
+        chainsAnew();
         // level counts groups, begin counts hours
         RingFreeOrder z = Check.of("task a 9;task b 1;task c 1;task d 1;arrow a d;arrow b c;arrow c d");
         Check.same("11: level", z.group(3, 5), 2);
         Check.same("11: begin", z.group(3, 6), 9);
         Check.same("11: slack", z.group(1, 7), 7);
+    }
+
+    /** What was measured ahead of a change does not show behind it, also where the numbers become less. */
+    private static void chainsAnew() {
+        RingFreeOrder x = Check.of("task a 9;task b 1;task c 1;arrow a b;arrow b c");
+        int[][] due = {{11, 2, 10, 0, 0}, {9, 1, 1, 7, 7}, {9, 0, 0, 8, 8}, {5, 0, 0, 4, 4}};
+        for (int step = 0; step < due.length; step++) {
+            if (step == 1 || step == 2) {
+                x.cut(0);
+            } else if (step == 3) {
+                x.setHours(0, 5);
+            }
+            int[] got = {x.length(), x.group(2, 5), x.group(2, 6), x.group(1, 7), x.group(2, 7)};
+            for (int k = 0; k < got.length; k++) {
+                Check.same("11, 24: step " + step + ", number " + k, got[k], due[step][k]);
+            }
+            Check.same("25: step " + step, x.tight(), step == 0 ? 7 : 1);
+        }
     }
 
     private static void weakestAndNeedless() {
