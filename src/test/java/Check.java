@@ -61,20 +61,7 @@ final class Check {
 
     /** Puts a text into the input buffer, in place of what it has. */
     static void give(RingFreeOrder x, String text) {
-        x.truncate(0);
-        for (int at = 0; at < text.length(); at += 20) {
-            x.append(number(text, at), number(text, at + 4), number(text, at + 8),
-                    number(text, at + 12), number(text, at + 16));
-        }
-        x.truncate(text.length());
-    }
-
-    private static int number(String text, int at) {
-        int value = 0;
-        for (int k = at; k < at + 4; k++) {
-            value = value << 8 | (k < text.length() ? text.charAt(k) & 255 : 0);
-        }
-        return value;
+        Example.give(x, text);
     }
 
     static RingFreeOrder of(String description) {
@@ -118,13 +105,7 @@ final class Check {
     }
 
     static String output(RingFreeOrder x) {
-        StringBuilder text = new StringBuilder();
-        int sign = x.outputByte(0);
-        while (sign != RingFreeOrder.NONE) {
-            text.append((char) sign);
-            sign = x.outputByte(text.length());
-        }
-        return text.toString();
+        return Example.textOf(x);
     }
 
     static String order(RingFreeOrder x) {
